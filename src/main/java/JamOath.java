@@ -404,10 +404,7 @@ public final class JamOath {
             return NONE;
         }
         int bits = fittingNumbers(asked);
-        if (what == 0) {
-            return Integer.bitCount(bits);
-        }
-        return bits == 0 ? SILENT : Integer.numberOfTrailingZeros(bits);
+        return what == 0 ? Integer.bitCount(bits) : least(bits);
     }
 
     public long odds(int fact, int part) {
@@ -496,6 +493,16 @@ public final class JamOath {
             }
         }
         return true;
+    }
+
+    /** The least of some numbers 0 .. 9, as bits. */
+    private static int least(int bits) {
+        for (int n = 0; n <= TOP_DIGIT; n++) {
+            if (isIn(bits, n)) {
+                return n;
+            }
+        }
+        return SILENT;
     }
 
     private int fittingSugars(Pot asked) {

@@ -54,6 +54,7 @@ public final class PromiseTest {
         judge();
         imageAndUndo();
         undoLeaves();
+        undonePotsAreGone();
         act();
         actWraps();
         trace();
@@ -359,6 +360,8 @@ public final class PromiseTest {
         fault(j, "sweet 1 p=1||", 12);
         fault(j, "sweet 1 p=1!", 11);
         fault(j, "sweet 1 q=1", 8);
+        fault(j, "sweet 1 =1", 8);
+        fault(j, "sweet 1 p1", 9);
         fault(j, "sweet 1 !", 9);
         fault(j, "sweet 1 !!!!!p=1", 12);
         fault(j, "sweet 1 !(!(!p=1))", 12);
@@ -656,6 +659,11 @@ public final class PromiseTest {
         due("none says", j.cases(0b1000000, 0), -5);
         due("not all", j.cases(0b1000001, 0), -5);
         due("none needed", j.cases(0, 0), 0);
+        j.pot(POT, 0, 0);
+        j.pot(POT, 0, 0);
+        cellar(j, "sweet 9 p=0&f=0;haze 9 p=1&f=1;sweet 9 p=2&f=2;sweet 9 p=3&f=3;sweet 9 p=4&f=4;haze 9 p=5&f=5");
+        due("all of them", j.cases(0b111111, 0), 0b111111);
+        due("not one more", j.cases(0b1111111, 0), -5);
         due("cases(256, 2)", j.cases(256, 2), NONE);
         due("cases(0, -1)", j.cases(0, -1), NONE);
         due("cases(256, 0)", j.cases(256, 0), BAD);
@@ -727,6 +735,8 @@ public final class PromiseTest {
         due("nothing: v below 4", j.can(0, 0), 4);
         cellar(j, "haze 5 v=2");
         due("v in a TEST", j.can(0, 0), 3);
+        cellar(j, "haze 20 v<9;haze 8 v=9");
+        due("v 9 alone", j.can(0, 1), 9);
         due("can(0, 2)", j.can(0, 2), NONE);
         due("can(0, -1)", j.can(0, -1), NONE);
         due("can(2, 0)", j.can(2, 0), NONE);
@@ -839,6 +849,13 @@ public final class PromiseTest {
             j.plan(1, 10);
         }
         due("9 at most", j.ends(1), 9);
+        j.plan(-1, 0);
+        cellar(j, "keep 1");
+        j.sugar(1, 0);
+        for (int i = 1; i <= 3; i++) {
+            j.plan(0, 0);
+            due("a TERM each", j.ends(0), Math.min(8 + i, 9) + i);
+        }
     }
 
     private static void book() {
@@ -989,6 +1006,27 @@ public final class PromiseTest {
         due("ROW is new", j.row(0, 1, 1), 0);
         due("OPENED is new", j.of(0, 4), 0);
         due("AGE is new", j.of(0, 3), 0);
+    }
+
+    private static void undonePotsAreGone() {
+        JamOath j = begin("24 undo, POTS that are gone");
+        j.pot(POT, 0, 4);
+        j.image();
+        j.pot(POT, 0, 9);
+        j.spoon(1, 0);
+        j.plan(1, 10);
+        j.undo();
+        j.world(1);
+        due("FOUND", j.told(10), 4);
+        due("ON", j.on(0, 0), 4);
+        due("MEAN", j.mean(0, 0), 4);
+        due("ENDS, SUGAR", j.ends(0), 4);
+        due("ENDS, OPENED", j.ends(1), 0);
+        due("ENOUGH", j.cases(255, 0), 1);
+        due("OWN", j.cases(255, 1), 1);
+        due("hear(1, 0, 1)", j.hear(1, 0, 1), NONE);
+        due("act(1, 0, 1)", j.act(1, 0, 1), 0);
+        due("taken(1, 0)", j.taken(1, 0), NOTHING);
     }
 
     private static void acted(JamOath j, int pot, int act, int x, int want, int... bodies) {
