@@ -37,6 +37,7 @@ public final class FaceTest {
         constants();
         classes();
         source();
+        promises();
         System.out.println("FaceTest: " + wrong + " wrong");
         if (wrong != 0) {
             System.exit(1);
@@ -134,6 +135,20 @@ public final class FaceTest {
             check(imports.group(1).equals("java.util.Arrays"), "import " + imports.group(1));
         }
         lengths(raw.split("\n"));
+    }
+
+    /** Each promise of the document has a test named after it. */
+    private static void promises() throws Exception {
+        Matcher m = Pattern.compile("(?m)^## Promise (\\d+): (.*)$").matcher(Files.readString(Path.of("../shared/DOC.md")));
+        int seen = 0;
+        while (m.find()) {
+            seen++;
+            String name = m.group(2).equals("A new object") ? "NewObject"
+                : m.group(2).substring(0, 1).toUpperCase() + m.group(2).substring(1);
+            String file = String.format("Promise%02d%sTest.java", Integer.parseInt(m.group(1)), name);
+            check(Files.exists(Path.of("src/test/java", file)), "there is no " + file);
+        }
+        check(seen == FACE.length + 1, "promises: " + seen);
     }
 
     /** By the layout of the file: a method begins and ends at the same indent. */

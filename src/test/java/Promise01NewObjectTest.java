@@ -100,4 +100,14 @@ public final class Promise01NewObjectTest extends Sentences {
         }
         due(other.count(0), 3);
     }
+
+    /** "An object is used for at most 512 calls": the last of them answers as the first. */
+    static void the512thCallAnswers() {
+        Jam j = new Jam();
+        j.pot(POT, 0, 9);
+        for (int call = 2; call <= 511; call++) {
+            due(j.world(call % 256), call == 2 ? 0 : (call - 1) % 256);
+        }
+        due(j.world(0), 511 % 256);
+    }
 }

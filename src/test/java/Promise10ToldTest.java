@@ -208,6 +208,15 @@ public final class Promise10ToldTest extends Sentences {
         due(j.told(7), 0);
     }
 
+    /** There is no FACT beyond 7 to ask about, though a TEST would hold for one. */
+    static void nextIsOfFacts0To7() {
+        Jam j = Jam.withPots(6, 0);
+        j.cellarOf("sweet 9 f>7|p>5");
+        due(j.told(7), 0);
+        j.cellarOf("sweet 9 f>6&p=5");
+        due(j.told(7), 57);
+    }
+
     /** FOUND: no POTS, or none that SAYS anything, is 0. */
     static void foundOfNothingIs0() {
         due(new Jam().told(10), 0);
