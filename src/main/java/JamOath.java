@@ -468,7 +468,7 @@ public final class JamOath {
             return SILENT;
         }
         int best = SILENT;
-        int least = Integer.MAX_VALUE;
+        int least = fits.size() + 1;
         for (int i = 0; i < now.potCount; i++) {
             for (int fact = 0; fact < FACTS; fact++) {
                 int left = fits.leftBy(fact, voiceOf(clearOf(now.pots[i], fact)));

@@ -130,6 +130,13 @@ public final class FaceTest {
             Matcher m = Pattern.compile("(?<![A-Za-z])" + word).matcher(bare);
             check(!m.find(), "outside the rules: " + word);
         }
+        TreeSet<String> listed = new TreeSet<>(Arrays.asList("Arrays.fill", "System.arraycopy", "Math.min",
+            "Math.max", "Math.abs", "Integer.bitCount", "Long.MIN_VALUE"));
+        Matcher library = Pattern.compile("\\b(?:Arrays|System|Math|Integer|Long|String|java)\\.\\w+").matcher(
+            bare.replaceAll("import [^;]*;", ""));
+        while (library.find()) {
+            check(listed.contains(library.group()), "not of the library's list: " + library.group());
+        }
         Matcher imports = Pattern.compile("import ([^;]*);").matcher(bare);
         while (imports.find()) {
             check(imports.group(1).equals("java.util.Arrays"), "import " + imports.group(1));
